@@ -123,7 +123,7 @@ public final class CinemaProgramme {
     private static final int TOO_FEW_SEATS = 11;
     private static final int TOO_FEW_LEFT = 12;
 
-    // What is wrong with a call, in the words of the exceptions that tell it.
+    // What is wrong with a call, one number for each exception that tells it.
     private static final int NO_FAULT = 0;
     private static final int INDEX_FAULT = 1;
     private static final int ARGUMENT_FAULT = 2;
@@ -990,10 +990,11 @@ public final class CinemaProgramme {
                 return NONE;
             }
             int row = rows;
-            rows++;
-            for (int column = 0; column < columns; column++) {
-                put(row, column, 0);
+            int end = Math.min((row + 1) * columns, cells.length);
+            for (int index = Math.max(row * columns, 0); index < end; index++) {
+                cells[index] = 0;
             }
+            rows++;
             return row;
         }
 
@@ -1067,16 +1068,6 @@ public final class CinemaProgramme {
                     && (trailers.get(trailer, TRAILER_GENRES) & films.get(film, FILM_GENRES)) != 0;
         }
 
-        private int fittingTrailers(int film, int day) {
-            int fitting = 0;
-            for (int trailer = 0; trailer < trailers.size(); trailer++) {
-                if (isFitting(trailer, film, day)) {
-                    fitting |= 1 << trailer;
-                }
-            }
-            return fitting;
-        }
-
         int reelMinutes(int reel) {
             int minutes = 0;
             for (int trailer = 0; trailer < trailers.size(); trailer++) {
@@ -1088,8 +1079,13 @@ public final class CinemaProgramme {
         }
 
         int bestReel(int film, int day) {
-            int fitting = fittingTrailers(film, day);
             int block = settings.get(0, BLOCK);
+            int fitting = 0;
+            for (int trailer = 0; trailer < trailers.size(); trailer++) {
+                if (isFitting(trailer, film, day)) {
+                    fitting |= 1 << trailer;
+                }
+            }
             int best = 0;
             int bestMinutes = 0;
             for (int reel = 1; reel < 1 << MOST_TRAILERS; reel++) {
@@ -1136,10 +1132,10 @@ public final class CinemaProgramme {
         }
 
         void putShow(int show, int hall, int start) {
-            int minutes = minutesOf(show);
+            int later = start - shows.get(show, SHOW_START);
             shows.put(show, SHOW_HALL, hall);
             shows.put(show, SHOW_START, start);
-            shows.put(show, SHOW_END, start + minutes);
+            shows.put(show, SHOW_END, shows.get(show, SHOW_END) + later);
         }
 
         int dropShow(int show) {
@@ -1223,11 +1219,12 @@ public final class CinemaProgramme {
         }
 
         boolean isShownOn(int show, int day) {
-            return shows.get(show, SHOW_DAY) == day && !isCancelled(show);
+            return shows.get(show, SHOW_DAY) == day && shows.get(show, SHOW_CANCELLED) == 0;
         }
 
         private boolean isShownIn(int show, int hall, int day) {
-            return shows.get(show, SHOW_HALL) == hall && isShownOn(show, day);
+            return shows.get(show, SHOW_HALL) == hall && shows.get(show, SHOW_DAY) == day
+                    && shows.get(show, SHOW_CANCELLED) == 0;
         }
 
         /** Returns the next show in a hall on a day that starts after a minute, -1 without one. */
@@ -1333,16 +1330,17 @@ public final class CinemaProgramme {
         void takeUp(State state, int show, int newFilm, int newDay) {
             film = newFilm;
             day = newDay;
+            int carrying = state.settingOf(CARRYING);
             others.clear();
             for (int other = 0; other < state.shows.size(); other++) {
                 if (other != show && state.isShownOn(other, day)) {
-                    addOther(state, other);
+                    addOther(state, other, carrying);
                 }
             }
         }
 
         /** A show of another film needs no print of this one: it is brought and carried at one minute. */
-        private void addOther(State state, int other) {
+        private void addOther(State state, int other, int carrying) {
             int hall = state.shows.get(other, SHOW_HALL);
             int start = state.shows.get(other, SHOW_START);
             int end = state.shows.get(other, SHOW_END);
@@ -1355,7 +1353,7 @@ public final class CinemaProgramme {
             others.put(row, END, end);
             others.put(row, CLEANED, end + state.halls.get(hall, HALL_CLEANING));
             others.put(row, BROUGHT, start);
-            others.put(row, CARRIED, isSameFilm ? end + state.settingOf(CARRYING) : start);
+            others.put(row, CARRIED, isSameFilm ? end + carrying : start);
         }
 
         /** Returns the first rule that the show would break in a place, 0 for none, and keeps its detail. */

@@ -20,6 +20,7 @@ final class FailureTest {
         test.rulesForPlaces();
         test.keepsReelPriceTickets();
         test.edgesOfTheDay();
+        test.allShowsOfOneDay();
         test.reopening();
         test.check.end();
     }
@@ -258,6 +259,19 @@ final class FailureTest {
         z.set(4, 120);
         check.due("a start ahead, as 960 is no start", 0, () -> z.fail(0, 0));
         line(z, 0, 0, 930, 1, 830, 0);
+    }
+
+    private void allShowsOfOneDay() {
+        CinemaProgramme x = cinema(10, 10);
+        x.addFilm(30, 0, 1, 1, 0);
+        x.set(2, 0);
+        for (int show = 0; show < 30; show++) {
+            x.plan(0, 1, 59, 30 * (29 - show));
+        }
+        check.due("fail", 0, () -> x.fail(0, 0));
+        for (int line = 0; line < 30; line++) {
+            line(x, line, 29 - line, 30 * line, 1, 30 * line, 0);
+        }
     }
 
     private void reopening() {

@@ -84,6 +84,9 @@ final class ShowsTest {
         refused(x, 5, 0, 40, 9, 100);
         x.plan(2, 1, 19, 220);
         check.due("the reason stays after a plan", 9, () -> x.refusal(false));
+        x.move(6, 2, 225);
+        check.due("the reason stays after a move", 9, () -> x.refusal(false));
+        check.due("its detail stays", 100, () -> x.refusal(true));
     }
 
     private void refused(CinemaProgramme x, int show, int hall, int start, int reason, int detail) {
