@@ -990,8 +990,8 @@ public final class CinemaProgramme {
                 return NONE;
             }
             int row = rows;
-            int end = Math.min((row + 1) * columns, cells.length);
-            for (int index = Math.max(row * columns, 0); index < end; index++) {
+            int first = row * columns;
+            for (int index = first; index >= 0 && index < first + columns && index < cells.length; index++) {
                 cells[index] = 0;
             }
             rows++;
@@ -1316,9 +1316,8 @@ public final class CinemaProgramme {
         private static final int START = 3;
         private static final int END = 4;
         private static final int CLEANED = 5;
-        private static final int BROUGHT = 6;
-        private static final int CARRIED = 7;
-        private static final int COLUMNS = 8;
+        private static final int CARRIED = 6;
+        private static final int COLUMNS = 7;
 
         /** The other shows of the day, in ascending order of their numbers. */
         private final Table others = new Table(MOST_SHOWS, COLUMNS);
@@ -1339,7 +1338,7 @@ public final class CinemaProgramme {
             }
         }
 
-        /** A show of another film needs no print of this one: it is brought and carried at one minute. */
+        /** A show of another film needs no print of this one, as if its print were carried away as it starts. */
         private void addOther(State state, int other, int carrying) {
             int hall = state.shows.get(other, SHOW_HALL);
             int start = state.shows.get(other, SHOW_START);
@@ -1352,7 +1351,6 @@ public final class CinemaProgramme {
             others.put(row, START, start);
             others.put(row, END, end);
             others.put(row, CLEANED, end + state.halls.get(hall, HALL_CLEANING));
-            others.put(row, BROUGHT, start);
             others.put(row, CARRIED, isSameFilm ? end + carrying : start);
         }
 
@@ -1381,11 +1379,11 @@ public final class CinemaProgramme {
                 return broken(6, meeting);
             }
             int carried = end + state.settingOf(CARRYING);
-            int minute = firstCrowded(start, carried, state.films.get(film, FILM_PRINTS), BROUGHT, CARRIED);
+            int minute = firstCrowded(start, carried, state.films.get(film, FILM_PRINTS), START, CARRIED);
             if (minute != NONE) {
                 return broken(7, minute);
             }
-            meeting = firstAtExit(state, hall, end);
+            meeting = firstAtExit(state.halls.get(hall, HALL_EXIT), end, state.settingOf(GAP));
             if (meeting != NONE) {
                 return broken(8, meeting);
             }
@@ -1408,9 +1406,7 @@ public final class CinemaProgramme {
             return NONE;
         }
 
-        private int firstAtExit(State state, int hall, int end) {
-            int exit = state.halls.get(hall, HALL_EXIT);
-            int gap = state.settingOf(GAP);
+        private int firstAtExit(int exit, int end, int gap) {
             for (int k = 0; k < others.size(); k++) {
                 if (others.get(k, EXIT) == exit && Math.abs(others.get(k, END) - end) < gap) {
                     return others.get(k, NUMBER);
