@@ -7,6 +7,16 @@ final class Check {
         long answer();
     }
 
+    /** A call with one number of which both sides of its range are looked at. */
+    interface NumberCall {
+        long answer(int number);
+    }
+
+    /** A call on an object that is handed in. */
+    interface CinemaCall {
+        long answer(CinemaProgramme cinema);
+    }
+
     static final Class<? extends RuntimeException> INDEX = IndexOutOfBoundsException.class;
     static final Class<? extends RuntimeException> ARGUMENT = IllegalArgumentException.class;
     static final Class<? extends RuntimeException> STATE = IllegalStateException.class;
@@ -44,6 +54,36 @@ final class Check {
             if (e.getClass() != due) {
                 tell(what + " threw " + e + ", due is " + due.getName());
             }
+        }
+    }
+
+    void answers(String what, Call call) {
+        looked++;
+        try {
+            call.answer();
+        } catch (RuntimeException e) {
+            tell(what + " threw " + e + ", due is an answer");
+        }
+    }
+
+    /** Outside of its range the number throws what is due; at both ends the call answers. */
+    void range(String what, int lowest, int highest, Class<? extends RuntimeException> due, NumberCall call) {
+        outside(what, lowest, highest, due, call);
+        answers(what + " " + lowest, () -> call.answer(lowest));
+        answers(what + " " + highest, () -> call.answer(highest));
+    }
+
+    /** Outside of its range the number throws what is due; at both ends the call answers the number itself. */
+    void rangeKept(String what, int lowest, int highest, Class<? extends RuntimeException> due, NumberCall call) {
+        outside(what, lowest, highest, due, call);
+        due(what + " " + lowest, lowest, () -> call.answer(lowest));
+        due(what + " " + highest, highest, () -> call.answer(highest));
+    }
+
+    private void outside(String what, int lowest, int highest, Class<? extends RuntimeException> due,
+            NumberCall call) {
+        for (int number : new int[] {Integer.MIN_VALUE, lowest - 1, highest + 1, Integer.MAX_VALUE}) {
+            fails(what + " " + number, due, () -> call.answer(number));
         }
     }
 
