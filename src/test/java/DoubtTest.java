@@ -421,8 +421,9 @@ final class DoubtTest {
     }
 
     private void numbersTooGreat() {
-        String[] texts = {"days 31", "days 60", "days 999", "plan 6 0 0 0", "plan 0 8 0 0", "plan 0 0 60 0", "plan 0 0 0 960",
-            "sell 30 1", "sell 0 401", "sell 0 999", "drop 30", "drop 999", "fail 6 0", "fail 0 60", "fail 0 999"};
+        String[] texts = {"days 31", "days 60", "days 999", "plan 6 0 0 0", "plan 0 8 0 0", "plan 0 0 60 0",
+            "plan 0 0 0 960", "sell 30 1", "sell 0 401", "sell 0 999", "drop 30", "drop 999", "fail 6 0", "fail 0 60",
+            "fail 0 999"};
         for (String text : texts) {
             CinemaProgramme x = cinema();
             x.plan(0, 0, 0, 0);

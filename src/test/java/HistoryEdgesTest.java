@@ -314,9 +314,10 @@ final class HistoryEdgesTest {
         check.fails("a refusal", Check.REFUSED, () -> x.sell(0, 91));
         Check.type(x, "days 30");
         x.undo();
-        check.same("what is kept after undo", "written 100-163 f0 10/100\nreason 12 90\nerror position 6", View.rest(x));
+        String kept = "written 100-163 f0 10/100\nreason 12 90\nerror position 6";
+        check.same("what is kept after undo", kept, View.rest(x));
         x.restore();
-        check.same("what is kept after restore", "written 100-163 f0 10/100\nreason 12 90\nerror position 6", View.rest(x));
+        check.same("what is kept after restore", kept, View.rest(x));
         check.due("the input after both", 1, () -> x.perform());
         check.due("today", 30, () -> x.account(11));
         x.write(1, 3);

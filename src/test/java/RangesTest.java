@@ -42,7 +42,7 @@ final class RangesTest {
         test.check.end();
     }
 
-    /** Two halls, two films, two trailers, and two shows, both of film 0: 0 in hall 0 on day 0, 1 in hall 1 on day 59. */
+    /** Two halls, two films, two trailers; two shows of film 0: 0 in hall 0 on day 0, 1 in hall 1 on day 59. */
     private static CinemaProgramme cinema() {
         CinemaProgramme x = new CinemaProgramme();
         x.addHall(400, 10, 0);

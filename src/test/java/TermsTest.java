@@ -1,4 +1,4 @@
-/** The terms, sentence by sentence: days, halls, films, trailers, settings, shows, rules and tickets, at their edges. */
+/** The terms, sentence by sentence: days, halls, films, trailers, shows, rules and tickets, at their edges. */
 final class TermsTest {
     private final Check check = new Check("TermsTest");
 
@@ -21,6 +21,7 @@ final class TermsTest {
         test.ruleEightBothSides();
         test.ruleNineByCrews();
         test.ruleNineOnlyWhileCleaned();
+        test.firstMinuteOfSeveral();
         test.minutesBehindTheDay();
         test.lowestNumbers();
         test.receiptsAndParts();
@@ -31,7 +32,7 @@ final class TermsTest {
 
     private static final int[] NO_RULE = {0, -1};
 
-    /** Halls of 100 seats without cleaning, with the exits 0, 1, 2, 0, 1, 2; film 0 of 100 minutes with three prints. */
+    /** Halls of 100 seats without cleaning, with the exits 0, 1, 2, 0 ..; film 0 of 100 minutes with three prints. */
     private static CinemaProgramme cinema(int halls) {
         CinemaProgramme x = new CinemaProgramme();
         for (int hall = 0; hall < halls; hall++) {
@@ -106,8 +107,8 @@ final class TermsTest {
         CinemaProgramme x = new CinemaProgramme();
         x.addFilm(30, 0, 1, 1, 0);
         int[][] shares = {{50, 10, 30, 50, 40, 30, 30}, {50, 10, 29, 50, 40, 30, 29}, {50, 10, 31, 50, 40, 31, 31},
-            {50, 0, 0, 50, 50, 50, 50}, {50, 50, 0, 50, 0, 0, 0}, {50, 49, 1, 50, 1, 1, 1}, {100, 50, 100, 100, 100, 100, 100},
-            {0, 50, 0, 0, 0, 0, 0}};
+            {50, 0, 0, 50, 50, 50, 50}, {50, 50, 0, 50, 0, 0, 0}, {50, 49, 1, 50, 1, 1, 1},
+            {100, 50, 100, 100, 100, 100, 100}, {0, 50, 0, 0, 0, 0, 0}};
         for (int[] row : shares) {
             x.setShares(0, row[0], row[1], row[2]);
             for (int week = 0; week < 4; week++) {
@@ -156,6 +157,7 @@ final class TermsTest {
     private void bestReel() {
         best("no trailers", 0, 0, withTrailers());
         best("one trailer", 6, 0b1, withTrailers(6));
+        best("one trailer of one minute", 1, 0b1, withTrailers(1));
         best("a block that is just full", 10, 0b11, withTrailers(6, 4));
         best("a block that would be one minute too small", 6, 0b1, withTrailers(6, 5));
         best("four trailers, not five", 4, 0b1111, withTrailers(1, 1, 1, 1, 1));
@@ -360,6 +362,42 @@ final class TermsTest {
         rule("cleaned from 429 on", x, last, 2, 0, 0, 329);
         rule("cleaned from 430 on", x, NO_RULE, 2, 0, 0, 330);
         rule("a cleaning time of 0 has no minutes", x, NO_RULE, 3, 0, 0, 315);
+    }
+
+    /** The detail of the rules 7 and 9 is the first minute of several, in whatever order the shows were planned. */
+    private void firstMinuteOfSeveral() {
+        int[][] orders = {{0, 1, 2}, {2, 1, 0}, {1, 0, 2}, {1, 2, 0}};
+        for (int[] order : orders) {
+            CinemaProgramme x = new CinemaProgramme();
+            x.addHall(100, 0, 0);
+            x.addHall(100, 0, 1);
+            x.addFilm(30, 0, 1, 1, 0);
+            x.set(2, 0);
+            for (int k : order) {
+                x.plan(0, 0, 0, 300 + 40 * k);
+            }
+            x.set(2, 60);
+            int[] first = {7, 300};
+            rule("one print, three shows in turn", x, first, 1, 0, 0, 295);
+            int[] second = {7, 301};
+            rule("one print, under way behind the first one's start", x, second, 1, 0, 0, 301);
+            CinemaProgramme y = new CinemaProgramme();
+            y.addHall(100, 10, 0);
+            y.addHall(100, 10, 1);
+            y.addHall(100, 10, 2);
+            y.addHall(100, 40, 2);
+            y.addFilm(30, 0, 1, 3, 0);
+            y.addFilm(30, 0, 1, 1, 0);
+            y.set(0, 0);
+            for (int k : order) {
+                y.plan(k, 0, 0, 300 + 10 * k);
+            }
+            y.set(1, 1);
+            int[] cleaned = {9, 330};
+            rule("one crew, three halls in turn", y, cleaned, 3, 1, 0, 295);
+            int[] later = {9, 331};
+            rule("one crew, cleaned behind the first one's end", y, later, 3, 1, 0, 301);
+        }
     }
 
     /** A minute is not limited by the end of the day for that. */

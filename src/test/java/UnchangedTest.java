@@ -1,6 +1,6 @@
 /**
- * A method that throws an exception leaves the state unchanged, and questions do, too: each wrong call is made on one of
- * two objects that are alike, and they must be alike after it, also when both are undone and restored.
+ * A method that throws an exception leaves the state unchanged, and questions do, too: each wrong call is made on one
+ * of two objects that are alike, and they must be alike after it, also when both are undone and restored.
  */
 final class UnchangedTest {
     private final Check check = new Check("UnchangedTest");
@@ -201,7 +201,8 @@ final class UnchangedTest {
 
     private void wrongTexts() {
         String[] texts = {"", " ", ";", "x", "days 1;", "sell 1 1;sell 1 1;", "sell 1 1;x", "drop 1;drop 01",
-            "fail 1 5;fail", "plan 1 1 30 0;plan 1 1 30 300 ", "days 1;days 1;days 1;days 1;days 1;days 1;days 1;days 1;drop"};
+            "fail 1 5;fail", "plan 1 1 30 0;plan 1 1 30 300 ",
+            "days 1;days 1;days 1;days 1;days 1;days 1;days 1;days 1;drop"};
         int[] due = {0, 0, 0, 0, 7, 18, 9, 13, 13, 29, 60};
         for (int k = 0; k < texts.length; k++) {
             String what = "the text \"" + texts[k] + "\"";

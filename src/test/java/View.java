@@ -34,7 +34,8 @@ final class View {
     static String rest(CinemaProgramme x) {
         StringBuilder view = new StringBuilder();
         view.append("written ").append(Check.written(x));
-        view.append("\nreason ").append(orNone(() -> x.refusal(false))).append(' ').append(orNone(() -> x.refusal(true)));
+        view.append("\nreason ").append(orNone(() -> x.refusal(false)));
+        view.append(' ').append(orNone(() -> x.refusal(true)));
         view.append("\nerror position ").append(orNone(() -> x.errorPosition()));
         return view.toString();
     }
