@@ -12,8 +12,10 @@ final class FailureEdgesTest {
         test.ascendingDaysThenStarts();
         test.takenOutAtOnce();
         test.amongShowsInTheirPlaces();
+        test.filmAndLengthOfEachShow();
         test.anotherHallOnly();
         test.enoughSeats();
+        test.seatsForEachShow();
         test.atMostTheShift();
         test.leastDifferenceFirst();
         test.earlierStartThen();
@@ -140,6 +142,29 @@ final class FailureEdgesTest {
         line(x, 1, 2, 200, 1, 200, 0);
     }
 
+    /** Shows whose numbers descend while their starts ascend, each of another film: each keeps its own length and rules. */
+    private void filmAndLengthOfEachShow() {
+        CinemaProgramme x = cinema(10, 10, 10);
+        x.addFilm(240, 0, 1, 3, 0);
+        x.addFilm(30, 2, 1, 1, 0);
+        x.set(2, 0);
+        x.plan(1, 1, 5, 200);
+        x.plan(0, 0, 5, 860);
+        x.plan(0, 1, 5, 500);
+        x.plan(0, 2, 5, 440);
+        x.plan(2, 0, 5, 490);
+        x.plan(2, 0, 5, 690);
+        x.setLimit(7, 1);
+        x.setLimit(14, 1);
+        check.due("fail", 0, () -> x.fail(0, 5));
+        line(x, 0, 3, 440, 2, 419, 0);
+        line(x, 1, 2, 500, 1, 500, 0);
+        line(x, 2, 1, 860, 1, 860, 0);
+        check.due("the end of the short one", 449, () -> x.show(3, 4));
+        check.due("the end of the long one", 740, () -> x.show(2, 4));
+        check.due("the end of the last one", 960, () -> x.show(1, 4));
+    }
+
     private void anotherHallOnly() {
         CinemaProgramme x = cinema(10);
         x.plan(0, 0, 5, 100);
@@ -168,6 +193,22 @@ final class FailureEdgesTest {
         y.plan(0, 0, 5, 100);
         check.due("no tickets, one seat", 0, () -> y.fail(0, 5));
         line(y, 0, 0, 100, 1, 100, 0);
+    }
+
+    /** Shows whose numbers descend while their starts ascend: each needs a hall for its own tickets. */
+    private void seatsForEachShow() {
+        CinemaProgramme x = cinema(40, 20, 30);
+        x.plan(0, 0, 5, 600);
+        x.plan(0, 0, 5, 400);
+        x.plan(0, 0, 5, 200);
+        x.sell(0, 21);
+        x.sell(1, 31);
+        x.sell(2, 20);
+        check.due("one has too many tickets", 1, () -> x.fail(0, 5));
+        line(x, 0, 2, 200, 1, 200, 20);
+        line(x, 1, 1, 400, -1, -1, 31);
+        line(x, 2, 0, 600, 2, 600, 21);
+        check.due("the tickets given back", 31, () -> x.account(9));
     }
 
     /** A long show in the other hall leaves no start but one that lies just the shift behind. */

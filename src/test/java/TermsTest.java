@@ -18,6 +18,7 @@ final class TermsTest {
         test.sameDayAndNotCancelled();
         test.ruleSevenByPrints();
         test.ruleSevenOnlyUnderWay();
+        test.carryingBeginsAtTheEnd();
         test.ruleEightBothSides();
         test.ruleNineByCrews();
         test.ruleNineOnlyWhileCleaned();
@@ -291,6 +292,30 @@ final class TermsTest {
         rule("under way from 560 on", x, NO_RULE, 2, 0, 0, 560);
         int[] carried = {7, 559};
         rule("under way from 559 on", x, carried, 2, 0, 0, 559);
+    }
+
+    /** The carrying time passes after the end, whether the hall is cleaned then or not; other films need no print. */
+    private void carryingBeginsAtTheEnd() {
+        CinemaProgramme x = new CinemaProgramme();
+        x.addHall(100, 40, 0);
+        x.addHall(100, 40, 1);
+        x.addHall(100, 40, 2);
+        x.addHall(100, 0, 2);
+        x.addFilm(100, 0, 1, 1, 0);
+        x.addFilm(30, 0, 1, 1, 0);
+        x.set(1, 3);
+        x.plan(0, 0, 0, 300);
+        rule("its print is carried until the other one starts", x, NO_RULE, 1, 0, 0, 185);
+        int[] before = {7, 300};
+        rule("its print is carried a minute too long", x, before, 1, 0, 0, 186);
+        rule("the print of the other one has been carried", x, NO_RULE, 1, 0, 0, 415);
+        int[] behind = {7, 414};
+        rule("the print of the other one is carried for a minute", x, behind, 1, 0, 0, 414);
+        x.plan(3, 1, 1, 0);
+        rule("a show of another film at the first minute", x, NO_RULE, 1, 0, 1, 0);
+        rule("a show of another film at the second minute", x, NO_RULE, 1, 0, 1, 1);
+        x.plan(3, 0, 2, 0);
+        rule("a show of the film ahead at the first minute", x, NO_RULE, 1, 1, 2, 0);
     }
 
     /** No other show in a hall with the same exit ends less than the gap of exits before or after this one. */
