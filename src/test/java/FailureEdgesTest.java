@@ -142,7 +142,7 @@ final class FailureEdgesTest {
         line(x, 1, 2, 200, 1, 200, 0);
     }
 
-    /** Shows whose numbers descend while their starts ascend, each of another film: each keeps its own length and rules. */
+    /** Shows whose numbers descend while their starts ascend, each of another film, with its own length and rules. */
     private void filmAndLengthOfEachShow() {
         CinemaProgramme x = cinema(10, 10, 10);
         x.addFilm(240, 0, 1, 3, 0);
